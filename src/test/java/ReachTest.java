@@ -1,3 +1,9 @@
+import java.util.ArrayList;
+import java.util.Arrays;
+import java.util.HashSet;
+import java.util.List;
+import java.util.Set;
+
 /** Promise 19 (reach). */
 public final class ReachTest {
     public static void main(String[] args) {
@@ -24,6 +30,7 @@ public final class ReachTest {
                 many = 1 0 0 0 0 0 0
                 followed = 0 4 0 0 0; tick(HANDS+CLEAR) = STROKE; now(10) = 2
                 """);
+        asTicksThemselvesTell();
         refusals();
         Check.end();
     }
@@ -52,5 +59,73 @@ public final class ReachTest {
                 reach(0, 0, 1, MIN) = OUTSIDE; reach(0, 0, 1, MAX) = OUTSIDE
                 reach(511, 384, 5, 11) = 0; reach(511, 257, 5, 14) = NONE
                 """);
+    }
+
+    private static final int[][] BEFORE = {{}, {63}, {63, 63}, {63, 31, 48}, {127, 255}, {51, 51}, {31, 31, 31}, {31, 31, 31, 304}};
+    private static final int[] BY = {0, 48, 63, 51, 63 + 128, 63 + 192, 304};
+    private static final int[][] SETTINGS = {{2, 3, 12, 2, 9}, {1, 2, 2, 3, 2}};
+
+    /** Every way of the TICKS is gone on an object of its own, and its STATES are told by now(). */
+    private static void asTicksThemselvesTell() {
+        for (int[] settings : SETTINGS) {
+            for (int valve = 0; valve <= 2; valve++) {
+                for (int[] before : BEFORE) {
+                    for (int a = 0; a < 9; a++) {
+                        for (int b = a; b < 9; b++) {
+                            int by = BY[(a * 7 + b * 3 + before.length + valve) % BY.length];
+                            compare(settings, valve, before, by, 1 << a | 1 << b);
+                        }
+                    }
+                }
+            }
+        }
+    }
+
+    private static PressGuard replay(int[] settings, int valve, int[] before, int[] sets) {
+        PressGuard guard = new PressGuard();
+        guard.anew(settings[0], settings[1], settings[2], settings[3], settings[4]);
+        for (int set : before) {
+            guard.tick(set);
+        }
+        guard.valve(0, valve);
+        guard.valve(1, valve);
+        for (int set : sets) {
+            guard.tick(set);
+        }
+        return guard;
+    }
+
+    private static void compare(int[] settings, int valve, int[] before, int set, int may) {
+        List<int[]> ways = new ArrayList<>();
+        ways.add(new int[0]);
+        Set<List<Integer>> states = new HashSet<>();
+        PressGuard start = replay(settings, valve, before, new int[0]);
+        int most = 0;
+        int[] fewest = {-9, -9, -9, -9, -9};
+        for (int k = 0; k < ways.size(); k++) {
+            int[] way = ways.get(k);
+            PressGuard there = replay(settings, valve, before, way);
+            List<Integer> state = new ArrayList<>();
+            for (int what = 0; what <= 12; what++) {
+                state.add(there.now(what));
+            }
+            states.add(state);
+            most = Math.max(most, there.many(1) - start.many(1));
+            int mode = there.now(0);
+            fewest[mode] = fewest[mode] == -9 ? way.length : fewest[mode];
+            for (int sub = 0; way.length < 3 && sub < 512; sub++) {
+                if ((sub & ~may) == 0) {
+                    int[] longer = Arrays.copyOf(way, way.length + 1);
+                    longer[way.length] = set & ~may | sub;
+                    ways.add(longer);
+                }
+            }
+        }
+        String title = Arrays.toString(settings) + " valves " + valve + " " + Arrays.toString(before) + " reach(" + set + ", " + may + ", 3, ";
+        Check.due(title + "0)", start.reach(set, may, 3, 0), states.size());
+        Check.due(title + "1)", start.reach(set, may, 3, 1), most);
+        for (int mode = 0; mode < 5; mode++) {
+            Check.due(title + (10 + mode) + ")", start.reach(set, may, 3, 10 + mode), fewest[mode]);
+        }
     }
 }

@@ -51,6 +51,15 @@ public final class SettingsTest {
                 stepAt(0) = 63; stepAt(1) = 48; stepAt(2) = UNKNOWN
                 stick(0, 2) = 2; stick(4, 2) = 2; valve(1, 2) = 2
                 """ + AT_FIRST + NOTHING_NOTED);
+        Check.run("anew with everything on its way", """
+                anew(5, 9, 30, 3, 9) = 1; tick(CLEAR+MUTE1) = READY; tick(LEFT+CLEAR+MUTE1+MUTE2+RESET) = READY
+                now(2) = 1; now(4) = 1; valve(0, 1) = 2; valve(1, 1) = 2; tick(LEFT+RIGHTA+CLEARB+MUTE1+MUTE2+RESET) = READY
+                now = READY 1 2 2 2 0 1 1 1 0 1 3 1 NONE
+                anew(5, 9, 30, 3, 9) = 1
+                """ + AT_FIRST + NOTHING_NOTED);
+        Check.run("anew while its command is open", """
+                tick(HANDS+CLEAR) = STROKE; now(9) = 1; anew(2, 3, 12, 1, 4) = 1; valve(0, 0) = 2; tick(0) = READY; now(8) = 0; now(9) = 0
+                """);
         Check.run("anew in mid stroke", """
                 tick(HANDS+CLEAR) = STROKE; tick(LEFT+RIGHTA+MUTE1+RESET) = STOPPED
                 anew(2, 3, 12, 1, 4) = 1

@@ -10,6 +10,7 @@ public final class TrialTest {
         noSteps();
         oneStep();
         sums();
+        oneAfterAnother();
         trialsRefusals();
         Check.end();
     }
@@ -51,7 +52,7 @@ public final class TrialTest {
     private static void asAtFirst() {
         Check.run("what is stuck stays out of it", "valve(0, 0) = 2; stick(0, 0) = 2; step(HANDS+CLEAR) = 1; step(HANDS+CLEAR) = 2; step(HANDS+CLEAR) = 3; step(HANDS+CLEAR) = 4;"
                 + "ticks(0, 3) = READY; trial(8, 0, 0, 3) = RETURN; trial(8, 0, 4, 3) = RETURN; trials(1) = 0; many(0) = 3; valve(0, 2) = 0; stick(0, 2) = 0");
-        Check.run("settings as they are", "step(CLEAR+LEFTA) = 1; trial(8, 0, 1, 3) = READY; trials(2) = 0; anew(0, 3, 12, 1, 4) = 1; trial(8, 0, 1, 3) = LOCKED; trial(8, 0, 1, 1) = 1; trial(8, 0, 1, 2) = 1");
+        Check.run("settings as they are", "step(CLEAR+LEFTA) = 1; trial(8, 0, 1, 3) = READY; trials(2) = 0; anew(0, 3, 12, 1, 4) = 1; trial(8, 0, 1, 3) = LOCKED; trial(8, 0, 1, 1) = 1; trial(8, 0, 1, 2) = 1; trials(2) = 16; anew(1, 3, 12, 1, 4) = 1; trials(2) = 0");
     }
 
     private static void trialRefusals() {
@@ -89,6 +90,19 @@ public final class TrialTest {
         Check.run("dangers", "step(HANDS+CLEAR) = 1; step(HANDS+CLEARA) = 2; step(HANDS+CLEARA) = 3; trials(4) = 2; trials(1) = 48");
         Check.run("they follow the script", "step(CLEAR) = 1; trials(0) = 18; step(CLEAR) = 2; trials(0) = 36; wipe() = 2; trials(0) = 0; step(CLEAR) = 1; trials(0) = 18; trials(0) = 18");
         Check.run("they change nothing", "tick(HANDS+CLEAR) = STROKE; step(CLEAR+LEFTA) = 1; stick(0, 1) = 2; trials(2) = 0; now = STROKE 2 0 0 0 0 0 0 0 1 1 1 0 NONE; many = 1 0 0 1 1 0 0; followed = 0 4 0 0 0");
+    }
+
+    /** Each begins as at first, whatever the one ahead of it left behind. */
+    private static void oneAfterAnother() {
+        String none = "trials(1) = 0; trials(2) = 0; trials(3) = NONE; trials(4) = 0; trials(5) = 0;";
+        Check.run("sums begin anew", "anew(0, 3, 12, 1, 2) = 1; step(HANDS+CLEAR) = 1; step(HANDS) = 2; step(HANDS+CLEAR) = 3; step(CLEARA) = 4; trials(4) = 1;"
+                + "wipe() = 4; anew(5, 3, 12, 1, 2) = 1; step(CLEAR) = 1;" + none);
+        Check.run("hands begin anew", "step(LEFT+CLEAR) = 1; step(LEFT+CLEAR) = 2; trial(8, 0, 2, 3) = READY; wipe() = 2;"
+                + "step(LEFT+CLEAR) = 1; step(LEFT+CLEAR) = 2; step(LEFT+CLEAR) = 3; step(HANDS+CLEAR) = 4; trial(8, 0, 4, 3) = STROKE; trial(8, 0, 4, 3) = STROKE");
+        Check.run("muting begins anew", "anew(2, 3, 2, 1, 9) = 1; step(HANDS+CLEAR) = 1; step(HANDS+CLEAR+MUTE1) = 2; step(HANDS+CLEAR+MUTE1+MUTE2) = 3; step(HANDS+MUTE1+MUTE2) = 4;"
+                + "trial(8, 0, 4, 3) = STROKE; trial(8, 0, 4, 3) = STROKE; trial(8, 0, 4, 0) = 0");
+        Check.run("the slide begins anew", "anew(2, 3, 12, 3, 9) = 1; step(HANDS+CLEAR) = 1; step(HANDS) = 2; trial(8, 0, 2, 0) = 1; trial(8, 0, 2, 0) = 1; wipe() = 2;"
+                + "step(0) = 1; trial(8, 0, 1, 0) = 0; trial(8, 0, 1, 0) = 0");
     }
 
     private static void trialsRefusals() {
