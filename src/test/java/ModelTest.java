@@ -2,8 +2,10 @@ import java.util.Random;
 
 /** All promises: long runs of calls, drawn from a fixed seed, answered by PressGuard and by PlainModel alike. */
 public final class ModelTest {
-    private static final int RUNS = 1500;
-    private static final int CALLS = 300;
+    private static final int RUNS = 6000;
+    /** With the looks behind each, and the last look at all, these come to less than 512 calls of one object. */
+    private static final int CALLS = 105;
+    private static final int LOOKS = 3;
     private static final int[] USUAL = {48, 63, 63, 63, 51, 60, 15, 0, 31, 47, 127, 255, 191, 112, 240, 176, 207, 143,
         304, 304, 48, 49, 52, 319};
 
@@ -30,12 +32,45 @@ public final class ModelTest {
     private boolean holds() {
         for (int call = 0; call < CALLS; call++) {
             boolean same = random.nextInt(100) < 75 ? changing() : asking();
-            if (!same || !sameAll()) {
+            for (int look = 0; look < LOOKS && same; look++) {
+                same = looking();
+            }
+            if (!same) {
                 System.out.println(told);
                 return false;
             }
         }
+        if (!sameAll()) {
+            System.out.println(told);
+            return false;
+        }
         return true;
+    }
+
+    private boolean looking() {
+        int draw = random.nextInt(100);
+        if (draw < 50) {
+            int what = near(0, 13);
+            return same("now(" + what + ")", guard.now(what), model.now(what));
+        }
+        if (draw < 70) {
+            int what = near(0, 6);
+            return same("many(" + what + ")", guard.many(what), model.many(what));
+        }
+        if (draw < 80) {
+            int mode = near(0, 4);
+            return same("followed(" + mode + ")", guard.followed(mode), model.followed(mode));
+        }
+        if (draw < 85) {
+            int k = near(0, 4);
+            return same("cause(" + k + ")", guard.cause(k), model.cause(k));
+        }
+        if (draw < 95) {
+            int cause = near(1, 5);
+            int position = random.nextBoolean() ? -9 : near(0, 17);
+            return same("locked(" + cause + ", " + position + ")", guard.locked(cause, position), model.locked(cause, position));
+        }
+        return same("places()", guard.places(), model.places());
     }
 
     private boolean same(String call, int got, int want) {

@@ -8,6 +8,8 @@ import java.util.List;
  * 'now = ..' (now(0) .. now(13)), 'many = ..' (many(0) .. many(6)), 'settings = ..' and 'followed = ..', as rows.
  */
 final class Check {
+    /** Behind so many calls the document promises nothing of an object any more. */
+    static final int MOST_CALLS = 512;
     private static int wrong = 0;
     private static int looked = 0;
 
@@ -27,33 +29,40 @@ final class Check {
     }
 
     static void run(String title, String text) {
-        play(new PressGuard(), title, text);
+        int calls = play(new PressGuard(), title, text);
+        if (calls > MOST_CALLS) {
+            due(title + ": calls of one object", calls, MOST_CALLS);
+        }
     }
 
-    static void play(PressGuard guard, String title, String text) {
+    /** How many calls there were. */
+    static int play(PressGuard guard, String title, String text) {
+        int count = 0;
         for (String line : text.split("\n")) {
             String calls = line.contains("#") ? line.substring(0, line.indexOf('#')) : line;
             for (String call : calls.split(";")) {
                 if (!call.isBlank()) {
-                    playOne(guard, title, call.strip());
+                    count += playOne(guard, title, call.strip());
                 }
             }
         }
+        return count;
     }
 
-    private static void playOne(PressGuard guard, String title, String call) {
+    private static int playOne(PressGuard guard, String title, String call) {
         String[] sides = call.split("=");
         String asked = sides[0].strip();
         String[] want = sides[1].strip().split("\\s+");
         if (asked.endsWith(")")) {
             due(title + ": " + asked, answer(guard, asked), value(want[0]));
-            return;
+            return 1;
         }
         String method = asked.equals("settings") ? "setting" : asked;
         for (int k = 0; k < want.length; k++) {
             String single = method + "(" + k + ")";
             due(title + ": " + asked + " as " + single, answer(guard, single), value(want[k]));
         }
+        return want.length;
     }
 
     static int answer(PressGuard guard, String call) {
