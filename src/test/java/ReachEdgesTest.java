@@ -12,6 +12,7 @@ public final class ReachEdgesTest {
         mostDangers();
         whatIsStuck();
         partsOfTheState();
+        partsAtTheirMost();
         notOfTheState();
         countsAtTheirMost();
         nothingIsChanged();
@@ -133,6 +134,20 @@ public final class ReachEdgesTest {
         Check.run("STATE: COMMAND alone", "anew(2, 3, 12, 0, 2) = 1; ticks(HANDS+CLEAR, 4) = READY;" + reach("HANDS+CLEAR, 0, 5", "2"));
         Check.run("STATE: POSITION alone", "anew(2, 3, 12, 0, 9) = 1; tick(HANDS+CLEAR) = STROKE;" + reach("HANDS+CLEAR, 0, 5", "6"));
         Check.run("STATE: POSITION and BRAKE", "anew(2, 3, 12, 3, 9) = 1; tick(HANDS+CLEAR) = STROKE; tick(CLEAR) = STOPPED;" + reach("CLEAR, 0, 5", "3"));
+    }
+
+    /** Two STATES of which one has a part at its most and the other has it at 0 and the part told ahead of it 1 more. */
+    private static void partsAtTheirMost() {
+        Check.run("STATE: BRAKE alone", "anew(5, 3, 12, 3, 9) = 1; tick(HANDS+CLEAR) = STROKE;" + reach("HANDS+CLEAR, CLEAR, 1", "4") + reach("HANDS+CLEAR, CLEAR, 2", "10"));
+        Check.run("STATE: HANDS 3 and LOCKED, HANDS 0 and READY", "valve(0, 1) = 2; ticks(CLEAR, 2) = LOCKED; valve(0, 2) = 1; ticks(CLEAR+LEFT, 4) = LOCKED; tick(CLEAR+LEFT+RESET) = LOCKED; now(1) = 3;" + reach("CLEAR, LEFT, 1", "4 0 0 1 NONE NONE NONE"));
+        Check.run("STATE: SINCE 9 and HANDS 1, SINCE 0 and HANDS 2", "anew(2, 9, 12, 0, 2) = 1; ticks(LEFT, 8) = READY;" + reach("LEFT, RIGHT, 1", "4"));
+        Check.run("STATE: MUTING 4 and SINCE 1, MUTING 0 and SINCE 2", reach("LEFT, MUTE2, 2", "5"));
+        Check.run("STATE: MUTED FOR 30 and MUTING 3, MUTED FOR 0 and MUTING 4", "anew(2, 3, 30, 0, 2) = 1; tick(MUTE1) = READY; ticks(MUTE1+MUTE2, 29) = READY;" + reach("0, MUTE2, 1", "3"));
+        Check.run("STATE: LEFT APART 9 and MUTED FOR 1, APART 0 and MUTED FOR 2", "ticks(LEFTA, 7) = LOCKED; tick(LEFTA+MUTE1) = LOCKED;" + reach("MUTE1+MUTE2, LEFTA, 2", "6"));
+        Check.run("STATE: RIGHT APART 9 and LEFT 0, 0 and LEFT 1", "ticks(RIGHTA, 8) = LOCKED;" + reach("0, 5, 1", "5"));
+        Check.run("STATE: CURTAIN APART 9 and RIGHT 0, 0 and RIGHT 1", "ticks(CLEARA, 8) = LOCKED;" + reach("0, 20, 1", "5"));
+        Check.run("STATE: UNLIKE 9 and CURTAIN APART 0, 0 and 1", "valve(0, 1) = 2; ticks(0, 9) = LOCKED; valve(0, 2) = 1;" + reach("CLEARA, 0, 1", "2"));
+        Check.run("STATE: COMMAND open and UNLIKE 0, closed and UNLIKE 1", "anew(2, 3, 12, 0, 2) = 1; ticks(HANDS+CLEAR, 4) = READY; valve(0, 0) = 2;" + reach("HANDS+CLEAR, 0, 1", "2"));
     }
 
     private static void notOfTheState() {

@@ -14,6 +14,7 @@ public final class ScriptEdgesTest {
         roundsAndDangers();
         aPressAsAtFirst();
         trialsAreCounted();
+        trialsOfAnotherScript();
         trialsWithDanger();
         trialsLocked();
         mostTicks();
@@ -158,6 +159,17 @@ public final class ScriptEdgesTest {
         Check.run("the INPUT that is STUCK in the press is not so in the TRIAL", "anew(2, 3, 12, 0, 2) = 1; stick(0, 0) = 2;" + rounds(1) + trial("0, 1, 5", "0 NONE NONE READY 1") + trial("0, 0, 5", "0 NONE NONE READY 1") + trial("0, 0, 0", "0 3 1 LOCKED 0"));
         Check.run("SETTINGS as they are now", script("CLEARA", "CLEARA", "CLEARA") + trial("8, 0, 3", "0 3 3 LOCKED 0") + "anew(3, 3, 12, 1, 4) = 1;" + trial("8, 0, 3", "0 NONE NONE READY 0") + "anew(6, 3, 12, 1, 4) = OUTSIDE;"
                 + trial("8, 0, 3", "0 NONE NONE READY 0") + trials("54 0 0 NONE 0 0") + "anew(0, 3, 12, 1, 4) = 1;" + trial("8, 0, 3", "0 1 3 LOCKED 0"));
+    }
+
+    /** Each of the sums was above 0, and is so no more once the SCRIPT is another one. */
+    private static void trialsOfAnotherScript() {
+        String start = "anew(5, 3, 12, 1, 2) = 1;" + rounds(1) + "step(HANDS+CLEAR) = 6; step(HANDS) = 7;";
+        // No DANGER: six INPUTS at 0 from one of the STEPS 0 .. 5 on (36), MUTE 2 at 1 from 0, 1 on (2).
+        // LOCKED: MUTE 2 at 1 from any STEP on (7), a CURTAIN at 0 from the first on, with the sixth TICK (2).
+        // A ROUND less: six INPUTS at 0 from 0, 1 on (12), MUTE 2 at 1 from 0, 1 on (2).
+        Check.run("sums of another SCRIPT: none", start + trials("126 88 9 6 1 14") + "wipe() = 7;" + trials("0 0 0 NONE 0 0"));
+        Check.run("sums of another SCRIPT: one STEP", start + trials("126 88 9 6 1 14") + "wipe() = 7; step(CLEAR) = 1;" + trials("18 0 0 NONE 0 0"));
+        Check.run("sums of other SETTINGS", start + trials("126 88 9 6 1 14") + "anew(5, 3, 12, 0, 9) = 1;" + trials("126 0 9 6 0 0"));
     }
 
     private static void trialsAreCounted() {
